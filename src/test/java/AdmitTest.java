@@ -73,6 +73,22 @@ public final class AdmitTest {
         // who has heard has nothing the next night: 81 and 72, the least row first
         check.due("another on each", x.plans(0), 81 + 72);
         check.row("another on each", x, 1, 2);
+        x = Check.made("99", "o95;l94");
+        Check.rule(x, "(n=0)*9+(h=9)*k*9");
+        // the first one pays 45 tonight and nothing then; the second one 36 and 36, as it has heard 9
+        check.due("the poorer start", x.plans(0), 72);
+        check.row("the poorer start", x, 2, 2);
+        x = Check.made("99", "o11;o11;o11;o11;o11;o11;o11;o11");
+        Check.rule(x, "(c=8)+(n=0)*(c=1)");
+        check.due("all eight together", x.plans(0), 16);
+        check.row("all eight together", x, 255, 255);
+        check.due("all eight together", x.admits(0), 8);
+        check.row("all eight together", x, 255, 1);
+        check.due("one alone", x.plans(17), 1);
+        check.row("one alone", x, 1, 0);
+        check.due("nobody", x.plans(18), 0);
+        check.row("nobody", x, 0, 0);
+        x = Check.made("99", "o99;o98");
         x.nights(6);
         x.sheet(3, 0, 0, 0);
         Check.rule(x, "9*(n=0)");
@@ -164,6 +180,8 @@ public final class AdmitTest {
 
     private static void grows() {
         HeldInTrust x = new HeldInTrust();
+        check.due("grows(0, 30)", x.grows(0, 30), 0);
+        check.row("grows(0, 30)", x, 0);
         check.due("grows(100, 0)", x.grows(100, 0), 100);
         check.row("grows(100, 0)", x, 0);
         check.due("grows(19, 3)", x.grows(19, 3), 24);

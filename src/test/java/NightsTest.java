@@ -81,7 +81,14 @@ public final class NightsTest {
         x.nights(60);
         check.due("money is full", x.count(4), 9999);
         check.due("back to more than 9999", x.stake(-1), -3);
-        check.due("back: not so much", x.stake(-9999), -3);
+        check.due("back to more than 9999", x.stake(-9999), -3);
+        check.due("undo the nights", x.undo(), 8);
+        x.undo();
+        check.due("back to 9999", x.stake(x.count(4) - 9999), x.count(4) + x.count(5) - 9999);
+        check.due("money", x.count(4), 9999);
+        check.due("undo it", x.undo(), 7);
+        x.nights(60);
+        x.nights(60);
         x.gain(-5);
         x.nights(7);
         check.due("half the stake", x.count(5), 5000);

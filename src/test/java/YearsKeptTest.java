@@ -85,7 +85,20 @@ public final class YearsKeptTest {
         check.row("refused: the row is as it was", x, 20, 0);
         for (int seed = -3; seed < 40; seed++) {
             checkYears(seed * 123456789, 60);
+            check.due("years without hearers", x.years(seed * 123456789, 60), 9 * nightsDrawn(seed * 123456789, 60));
+            check.row("years without hearers", x, 20, 0);
         }
+    }
+
+    /** Without hearers one DRAW a time, of which 0 and 1 tell a NIGHT. */
+    private static int nightsDrawn(int seed, int n) {
+        int nights = 0;
+        long r = seed & 0xffffffffL;
+        for (int i = 0; i < n; i++) {
+            r = (r * 1103515245L + 12345L) & 0xffffffffL;
+            nights += r / 65536 % 4 < 2 ? 1 : 0;
+        }
+        return nights;
     }
 
     /** The draws once more, without sign as longs; two hearers of WANT 1 who pay 1 and 2. */
