@@ -22,6 +22,40 @@ final class Check {
         }
     }
 
+    /** What is seen of an object is what is seen of its twin. */
+    void same(String sentence, String got, String want) {
+        if (!got.equals(want)) {
+            wrong++;
+            System.out.println(sentence + "\n  is   " + got + "\n  due  " + want);
+        }
+    }
+
+    /** A call with its answer on an object that has something of everything; nothing changes by it. */
+    void unchanged(String sentence, long want, Stands.Call call) {
+        unchanged(sentence, want, x -> { }, call);
+    }
+
+    /** The same, both twins having been brought where the sentence looks at. */
+    void unchanged(String sentence, long want, java.util.function.Consumer<HeldInTrust> ahead, Stands.Call call) {
+        HeldInTrust x = Stands.rich();
+        HeldInTrust twin = Stands.rich();
+        ahead.accept(x);
+        ahead.accept(twin);
+        due(sentence, call.on(x), want);
+        same(sentence + ": nothing changes", Stands.seen(x), Stands.seen(twin));
+    }
+
+    /** A text is refused at a place: it is emptied, and nothing else changes. */
+    void fault(String sentence, long want, String text, Stands.Call reads) {
+        HeldInTrust x = Stands.rich();
+        HeldInTrust twin = Stands.rich();
+        x.end(0);
+        twin.end(0);
+        Check.say(x, text);
+        due(sentence + " \"" + text + "\"", reads.on(x), want);
+        same(sentence + ": the text is empty, nothing else changes", Stands.seen(x), Stands.seen(twin));
+    }
+
     void noRow(HeldInTrust x, int i) {
         boolean thrown = false;
         try {
