@@ -12,25 +12,8 @@ public final class AccountsTest {
         check.end();
     }
 
-    private static HeldInTrust heard(int... heard) {
-        StringBuilder lines = new StringBuilder();
-        for (int i = 0; i < heard.length; i++) {
-            lines.append(i > 0 ? ";" : "").append("o91");
-        }
-        HeldInTrust x = Check.made("9", lines.toString());
-        Check.rule(x, "0");
-        x.nights(60);
-        x.nights(60);
-        for (int i = 0; i < heard.length; i++) {
-            for (int left = heard[i]; left > 0; left -= 9) {
-                x.hum(i, Math.min(9, left));
-            }
-        }
-        return x;
-    }
-
     private static void adds() {
-        HeldInTrust x = heard(3, 5, 8, 5, 0);
+        HeldInTrust x = Stands.heard(3, 5, 8, 5, 0);
         check.due("adds(8)", x.adds(8), 1);
         check.row("adds(8)", x, 4);
         check.due("adds(5)", x.adds(5), 1);
@@ -48,13 +31,13 @@ public final class AccountsTest {
         check.due("adds(999)", x.adds(999), -2);
         check.due("adds(1000)", x.adds(1000), -1);
         check.due("adds(-1)", x.adds(-1), -1);
-        x = heard(99, 99, 99, 99, 99, 99, 99, 99);
+        x = Stands.heard(99, 99, 99, 99, 99, 99, 99, 99);
         check.due("adds(792)", x.adds(792), 8);
         check.row("adds(792)", x, 255);
     }
 
     private static void nearest() {
-        HeldInTrust x = heard(4, 10, 4, 0);
+        HeldInTrust x = Stands.heard(4, 10, 4, 0);
         check.due("nearest(9)", x.nearest(9), 8);
         check.row("nearest(9): of two the lesser", x, 5);
         check.due("nearest(7)", x.nearest(7), 8);
@@ -76,7 +59,7 @@ public final class AccountsTest {
     }
 
     private static void awards() {
-        HeldInTrust x = heard(3, 0, 1, 3);
+        HeldInTrust x = Stands.heard(3, 0, 1, 3);
         check.due("awards(0)", x.awards(0), 0);
         check.row("awards(0)", x, 0, 0, 0, 0, 0);
         check.due("awards(2)", x.awards(2), 1);
@@ -92,16 +75,16 @@ public final class AccountsTest {
         HeldInTrust none = new HeldInTrust();
         check.due("without hearers", none.awards(7), 0);
         check.row("without hearers", none, 7);
-        x = heard(99, 99, 99, 99, 99, 99, 99, 99);
+        x = Stands.heard(99, 99, 99, 99, 99, 99, 99, 99);
         check.due("awards(793)", x.awards(793), 99);
         check.row("awards(793)", x, 99, 99, 99, 99, 99, 99, 99, 99, 1);
     }
 
     private static void envy() {
-        HeldInTrust x = heard(4, 7, 1, 7, 1);
+        HeldInTrust x = Stands.heard(4, 7, 1, 7, 1);
         check.due("envy", x.envy(), 6);
         check.row("envy", x, 1, 2);
-        x = heard(2, 2, 2);
+        x = Stands.heard(2, 2, 2);
         check.due("no envy", x.envy(), 0);
         check.row("no envy", x, 0, 1);
         HeldInTrust one = Check.made("9", "o91");

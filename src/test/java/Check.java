@@ -1,4 +1,5 @@
 import java.util.NoSuchElementException;
+import java.util.function.Consumer;
 
 /** What the tests share: it counts answers that are not the ones due, and tells them. */
 final class Check {
@@ -36,7 +37,7 @@ final class Check {
     }
 
     /** The same, both twins having been brought where the sentence looks at. */
-    void unchanged(String sentence, long want, java.util.function.Consumer<HeldInTrust> ahead, Stands.Call call) {
+    void unchanged(String sentence, long want, Consumer<HeldInTrust> ahead, Stands.Call call) {
         HeldInTrust x = Stands.rich();
         HeldInTrust twin = Stands.rich();
         ahead.accept(x);

@@ -332,7 +332,7 @@ public final class TermsEdgesTest {
     /** Nothing of a text that was refused is left for the next one. */
     private static void rulesBehindFaults() {
         String[] faults = {"((((", "((((v", "v<k<", "(v<k<", "12", "123x", "v+", "-", "--x", "((((v))))x", "0" + "+(1".repeat(4) + "<x"};
-        String[] right = {"v", "((((v))))", "(v<k)+7", "v<k=h".substring(0, 3), "7-0", "2*(1+2)+1", "(6<7)*7"};
+        String[] right = {"v", "((((v))))", "(v<k)+7", "v<k", "7-0", "2*(1+2)+1", "(6<7)*7"};
         int[] due = {7, 7, 7, 0, 7, 7, 7};
         for (String fault : faults) {
             for (int i = 0; i < right.length; i++) {
