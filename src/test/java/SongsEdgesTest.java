@@ -10,6 +10,7 @@ public final class SongsEdgesTest {
         lines();
         roomForLines();
         rules();
+        everySign();
         hearer();
         worth();
         sheetEntries();
@@ -213,6 +214,30 @@ public final class SongsEdgesTest {
         check.fault("the sign at p can't stand there", -2, "v v", HeldInTrust::rule);
         check.fault("the sign at p can't stand there", -3, "v+)", HeldInTrust::rule);
         check.fault("the sign at p can't stand there", -2, "v(", HeldInTrust::rule);
+    }
+
+    /** "The sign at p can't stand there": each of the 256 signs, first and behind a thing. */
+    private static void everySign() {
+        for (int i = 0; i < 256; i++) {
+            char sign = (char) i;
+            boolean digit = sign >= '0' && sign <= '9';
+            check.due("a first SONG by sign " + i, Check.songs(new HeldInTrust(), sign + "5"), digit ? 2 : -1);
+            check.due("a second SONG by sign " + i, Check.songs(new HeldInTrust(), "5" + sign), digit ? 2 : -2);
+            check.due("SORT by sign " + i, Check.hearers(new HeldInTrust(), sign + "11"), "olcw".indexOf(sign) >= 0 ? 1 : -1);
+            check.due("WANT by sign " + i, Check.hearers(new HeldInTrust(), "o" + sign + "1"), digit && sign != '0' ? 1 : -2);
+            check.due("PAY by sign " + i, Check.hearers(new HeldInTrust(), "o1" + sign), digit ? 1 : -3);
+            check.due("; by sign " + i, Check.hearers(new HeldInTrust(), "o11" + sign + "o11"), sign == ';' ? 2 : -4);
+            boolean thing = digit || "vkhwpnc".indexOf(sign) >= 0;
+            boolean ahead = sign == '-' || sign == '(';
+            check.due("a thing by sign " + i, Check.rule(new HeldInTrust(), "" + sign), thing ? 0 : ahead ? -2 : -1);
+            boolean between = "+-*/<>=".indexOf(sign) >= 0;
+            check.due("between two things by sign " + i, Check.rule(new HeldInTrust(), "v" + sign + "v"), between ? 0 : -2);
+            check.due("behind a bracket by sign " + i, Check.rule(new HeldInTrust(), "(v)" + sign), between ? -5 : -4);
+            check.due("behind a NUMBER by sign " + i, Check.rule(new HeldInTrust(), "1" + sign), digit ? 0 : between ? -3 : -2);
+            boolean act = "ncsba".indexOf(sign) >= 0;
+            int due = act ? 0 : sign == 'h' ? -3 : -1;
+            check.due("an ACT by sign " + i, Math.min(0, Check.spring(new HeldInTrust(), sign + "1")), due);
+        }
     }
 
     private static void hearer() {
