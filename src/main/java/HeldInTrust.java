@@ -1519,8 +1519,8 @@ public final class HeldInTrust {
         int left;
 
         Parting(int mostMore) {
-            kinds = mostMore + 1;
-            mays = new int[MOST_HEARERS * (mostMore + 1) * (MOST_HEARERS + 1)];
+            kinds = put(mostMore, 0, MOST_WORTH) + 1;
+            mays = new int[MOST_HEARERS * kinds * (MOST_HEARERS + 1)];
         }
 
         int place(int hearer, int heardMore, int present) {
